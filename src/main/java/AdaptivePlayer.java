@@ -399,6 +399,16 @@ public final class AdaptivePlayer {
             return bitrateOf(levelCount - 1);
         }
 
+        /** The highest level up to top whose bitrate keeps within the limit; level 0 needs not to. */
+        int highestLevelWithin(int limit, int top) {
+            for (int level = Math.min(top, bitrates.length - 1); level > 0; level--) {
+                if (bitrates[level] <= limit) {
+                    return level;
+                }
+            }
+            return 0;
+        }
+
         int variationOf(int segment) {
             return hasSegment(segment) ? variations[segment] : 0;
         }
@@ -694,13 +704,7 @@ public final class AdaptivePlayer {
             if (estimate == NONE) {
                 return 0;
             }
-            int affordable = estimate * settings.safety / 100;
-            for (int level = top; level > 0; level--) {
-                if (video.bitrateOf(level) <= affordable) {
-                    return level;
-                }
-            }
-            return 0;
+            return video.highestLevelWithin(estimate * settings.safety / 100, top);
         }
 
         private int levelByBuffer(int top) {

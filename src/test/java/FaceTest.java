@@ -47,6 +47,7 @@ public final class FaceTest {
                 }
             } else {
                 check.holds(method + " is private", Modifier.isPrivate(method.getModifiers()));
+                bearsNoPublicName(method);
             }
         }
         check.holds("public methods are those of the document, not " + found, found.equals(new TreeSet<>(METHODS)));
@@ -90,11 +91,15 @@ public final class FaceTest {
             }
             check.holds(type + " has at most twenty fields", held <= 20);
             for (Method method : type.getDeclaredMethods()) {
-                for (String name : METHODS) {
-                    check.holds(method + " bears no public name", !name.startsWith(method.getName() + " "));
-                }
+                bearsNoPublicName(method);
                 check.holds(method + " takes at most seven", method.getParameterCount() <= 7);
             }
+        }
+    }
+
+    private static void bearsNoPublicName(Method method) {
+        for (String name : METHODS) {
+            check.holds(method + " bears no public name", !name.startsWith(method.getName() + " "));
         }
     }
 

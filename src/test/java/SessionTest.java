@@ -5,6 +5,7 @@ public final class SessionTest {
     public static void main(String[] args) {
         promise10Restart();
         promise11Advance();
+        promise11LastBit();
         promise11SizeZero();
         promise12To16PlayStallFinish();
         promise15StartsWithTheLastSegment();
@@ -71,6 +72,21 @@ public final class SessionTest {
         check.due("advance(60000)", p.advance(60000), 9);
         check.due("time()", p.time(), 60002);
         check.due("state()", p.state(), AdaptivePlayer.FINISHED);
+    }
+
+    /** At a rate of 1000 a size of 1000 bits takes one millisecond, 1001 bits take two. */
+    private static void promise11LastBit() {
+        AdaptivePlayer p = new AdaptivePlayer();
+        p.setVideo(3, 1000);
+        p.addLevel(1);
+        check.due("advance(1) for 1000 bits", p.advance(1), 1);
+        p.setVideo(3, 1001);
+        p.addLevel(1);
+        check.due("advance(1) for 1001 bits", p.advance(1), 0);
+        check.due("advance(1) for the last bit", p.advance(1), 1);
+        check.due("throughputEstimate()", p.throughputEstimate(), 500);
+        check.due("advance(1), as what was received in excess is lost", p.advance(1), 0);
+        check.due("advance(1)", p.advance(1), 1);
     }
 
     private static void promise11SizeZero() {
@@ -400,6 +416,8 @@ public final class SessionTest {
         int[][] cases = {
             // reservoir, cushion, then the levels
             {0, 1, 0, 4, 4, 4, 4, 4},
+            {99, 1, 0, 4, 4, 4, 4, 4},
+            {100, 1, 0, 0, 4, 4, 4, 4},
             {100, 400, 0, 0, 1, 2, 3, 4},
             {100, 401, 0, 0, 0, 1, 2, 3},
             {99, 400, 0, 0, 1, 2, 3, 4},
