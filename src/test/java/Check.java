@@ -2,12 +2,22 @@
 final class Check {
     private int compared;
     private int wrong;
+    private String about = "";
+
+    /** Names what the following comparisons are about; it is printed with each of them that fails. */
+    void about(String what) {
+        about = what.isEmpty() ? "" : "[" + what + "] ";
+    }
+
+    int compared() {
+        return compared;
+    }
 
     void due(String call, long got, long want) {
         compared++;
         if (got != want) {
             wrong++;
-            System.out.println(call + " answered " + got + ", due is " + want);
+            System.out.println(about + call + " answered " + got + ", due is " + want);
         }
     }
 
@@ -15,7 +25,33 @@ final class Check {
         compared++;
         if (!condition) {
             wrong++;
-            System.out.println("does not hold: " + what);
+            System.out.println(about + "does not hold: " + what);
+        }
+    }
+
+    /** A player with a video of that many segments and of these levels. */
+    static AdaptivePlayer playerOf(int segments, int duration, int... bitrates) {
+        AdaptivePlayer player = new AdaptivePlayer();
+        player.setVideo(segments, duration);
+        for (int bitrate : bitrates) {
+            player.addLevel(bitrate);
+        }
+        return player;
+    }
+
+    /** The two values at the ends of a range, those just outside, and the ends of int. */
+    static int[] around(int lowest, int highest) {
+        return new int[] {
+            Integer.MIN_VALUE, -lowest - 1, lowest - 1, lowest, highest, highest + 1, highest + 65536, Integer.MAX_VALUE};
+    }
+
+    static boolean isIn(int value, int lowest, int highest) {
+        return lowest <= value && value <= highest;
+    }
+
+    void levels(String when, AdaptivePlayer player, int... want) {
+        for (int segment = 0; segment < want.length; segment++) {
+            due(when + ": segmentLevel(" + segment + ")", player.segmentLevel(segment), want[segment]);
         }
     }
 
