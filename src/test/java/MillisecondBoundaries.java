@@ -315,7 +315,8 @@ final class MillisecondBoundaries {
         p.advance(1);
         for (int i = 1; i < 100; i++) {
             p.advance(1);
-            check.shows("after " + i, p, 1 + i, i, 100 - i, PLAYING);
+            check.due("position() after " + i, p.position(), i);
+            check.due("bufferLevel() after " + i, p.bufferLevel(), 100 - i);
         }
         check.command(p, "pause", 1);
         p.advance(500);
@@ -465,13 +466,19 @@ final class MillisecondBoundaries {
     }
 
     private void timeGrowsAlways() {
-        AdaptivePlayer p = inEachState();
-        for (int i = 1; i <= 320; i++) {
+        int[] times = {0, 5, 60, 150, 400};
+        for (int time : times) {
+            AdaptivePlayer p = inEachState();
+            if (time > 0) {
+                p.advance(time);
+            }
+            for (int i = 1; i <= 20; i++) {
+                p.advance(1);
+                check.due("time() in state " + p.state(), p.time(), time + i);
+            }
+            check.command(p, "pause", 1);
             p.advance(1);
-            check.due("time() of state " + p.state(), p.time(), i);
+            check.due("time() when paused", p.time(), time + 21);
         }
-        check.command(p, "pause", 1);
-        p.advance(1);
-        check.due("time() when paused", p.time(), 321);
     }
 }
