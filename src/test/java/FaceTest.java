@@ -7,6 +7,7 @@ import java.nio.file.Files;
 import java.nio.file.Path;
 import java.util.Set;
 import java.util.TreeSet;
+import java.util.regex.Matcher;
 import java.util.regex.Pattern;
 
 /** The public face, and those rules of LANGUAGE.md that can be told from the class and its source. */
@@ -26,6 +27,12 @@ public final class FaceTest {
     private static final String[] FORBIDDEN = {
         "\\bthrow\\b", "\\bthrows\\b", "\\btry\\b", "\\bcatch\\b", "\\bsynchronized\\b", "\\bassert\\b", "\\bimport\\b",
         "\\bpackage\\b", "\\bSystem\\b(?!\\.arraycopy)", "\\bThread\\b", "\\bRandom\\b", "->", "::", "Exact\\("};
+
+    /** What the class uses of the library; all of it stands in rule 4. */
+    private static final Set<String> LIBRARY_CALLS = Set.of(
+        "length", "charAt", "equals", "indexOf", "substring", "append", "setLength", "toString", "min");
+    private static final Set<String> LIBRARY_TYPES = Set.of("String", "StringBuilder", "Math");
+    private static final int LONGEST_METHOD = 60;
 
     public static void main(String[] args) throws ReflectiveOperationException, IOException {
         methods();
@@ -110,5 +117,47 @@ public final class FaceTest {
             check.holds("no " + forbidden + " in the source", !Pattern.compile(forbidden).matcher(code).find());
         }
         check.holds("ASCII alone in the source", text.chars().allMatch(c -> c == '\n' || (c >= 32 && c < 127)));
+        String words = code.replaceAll("\"[^\"]*\"", "\"\"");
+        namesAreKnown(words, "\\.(\\w+)\\(", methodNames(), LIBRARY_CALLS);
+        namesAreKnown(words, "\\b([A-Z]\\w*[a-z]\\w*)\\b", classNames(), LIBRARY_TYPES);
+        methodsAreShort(text);
+    }
+
+    private static Set<String> methodNames() {
+        Set<String> names = new TreeSet<>();
+        for (Method method : AdaptivePlayer.class.getDeclaredMethods()) {
+            names.add(method.getName());
+        }
+        for (Class<?> type : AdaptivePlayer.class.getDeclaredClasses()) {
+            for (Method method : type.getDeclaredMethods()) {
+                names.add(method.getName());
+            }
+        }
+        return names;
+    }
+
+    private static Set<String> classNames() {
+        Set<String> names = new TreeSet<>(Set.of("AdaptivePlayer"));
+        for (Class<?> type : AdaptivePlayer.class.getDeclaredClasses()) {
+            names.add(type.getSimpleName());
+        }
+        return names;
+    }
+
+    private static void namesAreKnown(String code, String pattern, Set<String> own, Set<String> library) {
+        Matcher name = Pattern.compile(pattern).matcher(code);
+        while (name.find()) {
+            check.holds(name.group(1) + " is of the class itself, or of the library that it may use",
+                own.contains(name.group(1)) || library.contains(name.group(1)));
+        }
+    }
+
+    /** A method goes from the line that opens its brace to the brace that stands as far to the right. */
+    private static void methodsAreShort(String text) {
+        Matcher method = Pattern.compile("(?ms)^( +)[^\n=]*\\([^\n=]*\\) \\{\n.*?^\\1\\}").matcher(text);
+        while (method.find()) {
+            int lines = method.group().split("\n").length;
+            check.holds("a method of " + lines + " lines: " + method.group().split("\n")[0], lines <= LONGEST_METHOD);
+        }
     }
 }

@@ -4,6 +4,8 @@ import java.util.Random;
 public final class RandomRunsTest {
     private static final int RUNS = 1500;
     private static final int CALLS = 512;
+    /** One run in so many goes up to the highest values that the document allows. */
+    private static final int WIDE_RUNS = 5;
     private static final Check check = new Check();
     private static final String[] COMMANDS = {
         "policy fixed", "policy rate", "policy buffer", "policy hybrid", "policy rate", "policy buffer", "policy hybrid",
@@ -16,12 +18,14 @@ public final class RandomRunsTest {
 
     private final Random random;
     private final int number;
+    private final boolean wide;
     private final AdaptivePlayer player = new AdaptivePlayer();
     private final ReferencePlayer reference = new ReferencePlayer();
     private int calls;
 
     private RandomRunsTest(int number) {
         this.number = number;
+        this.wide = number % WIDE_RUNS == 0;
         this.random = new Random(number);
     }
 
@@ -33,7 +37,9 @@ public final class RandomRunsTest {
     }
 
     private void run() {
-        if (random.nextInt(10) > 0) {
+        if (wide) {
+            layOutWide();
+        } else if (random.nextInt(10) > 0) {
             layOut();
         }
         // the dearest step is a command with its look at the session behind it
@@ -72,19 +78,32 @@ public final class RandomRunsTest {
         setPolicyNumbers(between(30, 160), between(0, 1500), between(1, 3000));
     }
 
+    private void layOutWide() {
+        setVideo(between(1, 30), between(100, 5000));
+        addLevels();
+        int periods = between(0, 12);
+        for (int i = 0; i < periods; i++) {
+            addPeriod(between(1, 60000), random.nextInt(6) == 0 ? 0 : between(50, 9000));
+        }
+        int maximum = between(5000, 60000);
+        setBuffer(maximum, between(1, Math.min(maximum, 15000)));
+        setPolicyNumbers(between(1, 200), between(0, 30000), between(1, 30000));
+    }
+
     private void addLevels() {
         int bitrate = between(1, 400);
         int levels = between(1, 5);
         for (int i = 0; i < levels; i++) {
-            due("addLevel(" + bitrate + ")", player.addLevel(bitrate), reference.addLevel(bitrate));
-            bitrate += between(1, 700);
+            addLevel(bitrate);
+            bitrate += between(1, wide ? 2400 : 700);
         }
     }
 
     private void step() {
         int kind = random.nextInt(100);
         if (kind < 45) {
-            advance(random.nextInt(8) == 0 ? between(1, 5000) : between(1, 400));
+            int scale = wide ? 10 : 1;
+            advance(random.nextInt(8) == 0 ? between(1, 6000 * scale) : between(1, 400 * scale));
         } else if (kind < 65) {
             command(COMMANDS[random.nextInt(COMMANDS.length)]);
         } else if (kind < 75) {
@@ -92,7 +111,7 @@ public final class RandomRunsTest {
         } else if (kind < 80) {
             wrongStep();
         } else if (kind < 81) {
-            setVideo(between(1, 30), between(100, 600));
+            setVideo(between(1, 30), between(100, wide ? 5000 : 600));
             addLevels();
         } else if (kind < 84) {
             due("restart()", player.restart(), reference.restart());
